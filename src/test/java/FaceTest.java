@@ -1,0 +1,49 @@
+import java.lang.reflect.Constructor;
+import java.lang.reflect.Field;
+import java.lang.reflect.Method;
+import java.lang.reflect.Modifier;
+import java.util.Set;
+import java.util.TreeSet;
+
+/** The face of the class is the document's, and nothing else of it can be seen. */
+public final class FaceTest {
+    private static final String[] METHODS = {
+        "int node()", "int arc(int,int,int)", "int weigh(int,int)", "boolean drop()", "long trees()",
+        "long through(int)", "long rooted(int)", "long forests()", "long apart(int,int)",
+        "long resistance(int,int,int)", "long tours()", "int drawn(long)", "long place(int)",
+        "int ring(int,int)", "long group(int)", "long chips(int,int)", "long level(int)",
+        "long settle(int)", "long fired(int)", "int recurrent(int)",
+        "long point(long,long) throws java.lang.IllegalStateException", "int told(int)", "void clear()",
+    };
+
+    public static void main(String[] args) {
+        Check check = new Check();
+        Set<String> wanted = new TreeSet<>(Set.of(METHODS));
+        Set<String> found = new TreeSet<>();
+        Set<String> publicNames = new TreeSet<>();
+        for (Method method : TreeCounts.class.getDeclaredMethods()) {
+            if (!Modifier.isPrivate(method.getModifiers())) {
+                found.add(method.toGenericString().replace("public ", "").replace("TreeCounts.", ""));
+                publicNames.add(method.getName());
+            }
+        }
+        check.holds("the methods are " + wanted + ", found " + found, wanted.equals(found));
+        for (Field field : TreeCounts.class.getDeclaredFields()) {
+            boolean isNone = field.getName().equals("NONE");
+            check.holds("field " + field, isNone != Modifier.isPrivate(field.getModifiers()));
+            check.holds("final " + field, Modifier.isFinal(field.getModifiers()) || !Modifier.isStatic(field.getModifiers()));
+        }
+        Constructor<?>[] constructors = TreeCounts.class.getDeclaredConstructors();
+        check.holds("one constructor without parameters, public",
+            constructors.length == 1 && constructors[0].getParameterCount() == 0 && Modifier.isPublic(constructors[0].getModifiers()));
+        check.holds("the class is final and public", Modifier.isFinal(TreeCounts.class.getModifiers()) && Modifier.isPublic(TreeCounts.class.getModifiers()));
+        for (Class<?> inner : TreeCounts.class.getDeclaredClasses()) {
+            check.holds("static " + inner, Modifier.isStatic(inner.getModifiers()) && !Modifier.isPublic(inner.getModifiers()));
+            for (Method method : inner.getDeclaredMethods()) {
+                check.holds("no name of the face: " + method, !publicNames.contains(method.getName()));
+            }
+        }
+        check.due("NONE", TreeCounts.NONE, -1);
+        check.end();
+    }
+}
