@@ -559,9 +559,9 @@ public final class TreeCounts {
         }
 
         private void beginChoice() {
-            chosenSum = sumOfAll();
-            chosenProduct = 1;
             parts.split(net.nodes);
+            chosenSum = sumOverParts(0);
+            chosenProduct = 1;
         }
 
         /** Of the trees that agree with the choice so far, the sum of those with the next arc. */
@@ -841,8 +841,9 @@ public final class TreeCounts {
 
     /** The chips of the nodes, and how often each node fired. */
     private static final class Piles {
-        // far above the sweeps that any net of ten nodes needs with the chips of 512 calls
-        private static final int MOST_SWEEPS = 10_000_000;
+        // far above need: with 100,000 chips, more than 512 calls can bring, the hardest nets that
+        // were found take 11,000 sweeps
+        private static final int MOST_SWEEPS = 1_000_000;
 
         final long[] held = new long[MOST_NODES];
         final long[] firings = new long[MOST_NODES];
