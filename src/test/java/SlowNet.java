@@ -199,7 +199,7 @@ final class SlowNet {
     }
 
     long settle(int sink) {
-        if (!isNode(sink) || trees() == 0) {
+        if (!isNode(sink) || !isWhole()) {
             return NONE;
         }
         fired = settled(chips, sink);
@@ -215,7 +215,7 @@ final class SlowNet {
     }
 
     int recurrent(int sink) {
-        if (!isNode(sink) || trees() == 0) {
+        if (!isNode(sink) || !isWhole()) {
             return NONE;
         }
         long[] trial = chips.clone();
@@ -292,6 +292,11 @@ final class SlowNet {
 
     private boolean isNode(int node) {
         return node >= 0 && node < nodes;
+    }
+
+    /** By the first trees, since trying all sets of arcs would take too long for many arcs. */
+    private boolean isWhole() {
+        return told(2) == 1;
     }
 
     private boolean isArc(int arc) {
