@@ -841,8 +841,13 @@ public final class TreeCounts {
 
     /** The chips of the nodes, and how often each node fired. */
     private static final class Piles {
-        // far above need: with 100,000 chips, more than 512 calls can bring, the hardest nets that
-        // were found take 11,000 sweeps
+        /*
+         * Far above need. Let a chip weigh the mean steps of a walk by chance from its node to the
+         * sink, 1 to 9 * 540: a node of c chips that fires all it can takes off more than c / 2. While
+         * 1,080 chips or more are off the sink, half of them are on nodes that fire, so each sweep
+         * takes off 1 / 19,440 of all: from the 102,400 chips that 512 calls can bring, that is over
+         * within 254,000 sweeps. Fewer chips let nodes fire at most 9 * 9 * 1,080 times.
+         */
         private static final int MOST_SWEEPS = 1_000_000;
 
         final long[] held = new long[MOST_NODES];

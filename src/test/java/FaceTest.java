@@ -1,9 +1,14 @@
+import java.io.IOException;
 import java.lang.reflect.Constructor;
 import java.lang.reflect.Field;
 import java.lang.reflect.Method;
 import java.lang.reflect.Modifier;
+import java.nio.file.Files;
+import java.nio.file.Path;
 import java.util.Set;
 import java.util.TreeSet;
+import java.util.regex.Matcher;
+import java.util.regex.Pattern;
 
 /** The face of the class is the document's, and nothing else of it can be seen. */
 public final class FaceTest {
@@ -16,9 +21,13 @@ public final class FaceTest {
         "long point(long,long) throws java.lang.IllegalStateException", "int told(int)", "void clear()",
     };
 
-    public static void main(String[] args) {
+    private static final Pattern WRITTEN = Pattern.compile("    public (\\w+ \\w+)\\(([^)]*)\\)(?: throws (\\w+))?;");
+
+    public static void main(String[] args) throws IOException {
         Check check = new Check();
         Set<String> wanted = new TreeSet<>(Set.of(METHODS));
+        Set<String> written = writtenMethods();
+        check.holds("the document's methods are " + wanted + ", found " + written, wanted.equals(written));
         Set<String> found = new TreeSet<>();
         Set<String> publicNames = new TreeSet<>();
         for (Method method : TreeCounts.class.getDeclaredMethods()) {
@@ -46,6 +55,21 @@ public final class FaceTest {
         check.due("NONE", TreeCounts.NONE, -1);
         check.end();
     }
+
+    /** The methods of the document's face, without the names of their parameters. */
+    private static Set<String> writtenMethods() throws IOException {
+        Set<String> written = new TreeSet<>();
+        for (String line : Files.readAllLines(Path.of("../shared/DOC.md"))) {
+            Matcher method = WRITTEN.matcher(line);
+            if (method.matches()) {
+                String types = method.group(2).replaceAll(" \\w+(, |$)", "$1").replace(", ", ",");
+                String thrown = method.group(3) == null ? "" : " throws java.lang." + method.group(3);
+                written.add(method.group(1) + "(" + types + ")" + thrown);
+            }
+        }
+        return written;
+    }
+
     private static void askPrivateNames(Check check, Class<?> owner, Set<String> publicNames) {
         for (Method method : owner.getDeclaredMethods()) {
             boolean clash = Modifier.isPrivate(method.getModifiers()) && publicNames.contains(method.getName());
